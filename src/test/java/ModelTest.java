@@ -1,0 +1,158 @@
+import java.util.Random;
+
+/** Drawn runs of 512 calls each: every answer, and now and then the whole state, against ModelHouse. */
+public final class ModelTest {
+    private static final int RUNS = 4000, CALLS = 512;
+    private static final long[] VALUES = {0, 0, 1, 1, 2, 3, 5, 7, 8, -1, -3, 1000000, 4294967296L,
+        Long.MAX_VALUE, Long.MIN_VALUE};
+    private static final int[] WILD = {-1, -2, 6, 8, 10, 12, 15, 20, 40, Integer.MIN_VALUE, Integer.MAX_VALUE};
+    private static final Check check = new Check();
+    private static final int[] answers = new int[16];
+    private static int longest = 0;
+
+    private final Random random;
+    private final BellHouse house = new BellHouse();
+    private final ModelHouse model = new ModelHouse();
+    private final boolean callingMuch;
+    private final String name;
+
+    private ModelTest(int seed) {
+        random = new Random(seed);
+        callingMuch = seed % 3 == 0;
+        name = "run " + seed;
+    }
+
+    public static void main(String[] args) {
+        for (int seed = 0; seed < RUNS; seed++) {
+            ModelTest run = new ModelTest(seed);
+            for (int call = 0; call < CALLS; call++) {
+                run.oneCall(call);
+            }
+            run.wholeState();
+        }
+        for (int failure = 1; failure <= 6; failure++) {
+            check.holds("failure " + failure + " came up to a call", answers[failure] > 100);
+        }
+        check.holds("some were FULL", answers[0] > 100);
+        check.holds("some made many steps, at most " + longest, longest > 190);
+        check.end();
+    }
+
+    private int below(int many) {
+        return random.nextInt(60) == 0 ? WILD[random.nextInt(WILD.length)] : random.nextInt(many);
+    }
+
+    private long value() {
+        return random.nextInt(3) == 0 ? VALUES[random.nextInt(VALUES.length)] : random.nextInt(8);
+    }
+
+    private int aHearer() {
+        return below(model.count(0));
+    }
+
+    private void due(int call, String what, long got, long want) {
+        check.due(name + ", call " + call + ": " + what, got, want);
+    }
+
+    private void oneCall(int call) {
+        int much = callingMuch ? 30 : 16;
+        int drawn = random.nextInt(much);
+        if (drawn >= 16 || call > 80 && drawn >= 12) {
+            callThatRings(call);
+        } else if (call < 60 && drawn < 9 || drawn < 2) {
+            makeHearer(call);
+        } else {
+            changeOrTell(call, drawn);
+        }
+    }
+
+    private void callThatRings(int call) {
+        long v = value();
+        int which = random.nextInt(10);
+        int got;
+        if (which == 0) {
+            got = house.drain();
+            due(call, "drain", got, model.drain());
+        } else if (which < 5) {
+            int hearer = aHearer();
+            got = house.act(hearer, v);
+            due(call, "act " + hearer + " " + v, got, model.act(hearer, v));
+        } else {
+            int bell = below(6);
+            got = house.ring(bell, v);
+            due(call, "ring " + bell + " " + v, got, model.ring(bell, v));
+        }
+        if (got <= -11) {
+            answers[-10 - got]++;
+        }
+        if (got == BellHouse.FULL) {
+            answers[0]++;
+        }
+        longest = Math.max(longest, got);
+    }
+
+    private void makeHearer(int call) {
+        int sort = below(15);
+        int a = sort <= 3 ? below(8) : sort <= 6 ? below(6) : aHearer();
+        int b = sort == 10 || sort == 12 ? below(8) : sort == 14 ? below(6) : sort == 11 ? aHearer()
+                : random.nextInt(9) - 2;
+        if (random.nextInt(40) == 0) {
+            b = WILD[random.nextInt(WILD.length)];
+        }
+        due(call, "hearer " + sort + " " + a + " " + b, house.hearer(sort, a, b), model.hearer(sort, a, b));
+    }
+
+    private void changeOrTell(int call, int drawn) {
+        int hearer = aHearer();
+        int bell = below(6);
+        int k = below(8);
+        long v = value();
+        switch (drawn) {
+            case 2: case 3: case 4: case 5:
+                due(call, "bind " + hearer + " " + bell, house.bind(hearer, bell), model.bind(hearer, bell));
+                break;
+            case 6:
+                due(call, "leave " + hearer + " " + bell, house.leave(hearer, bell), model.leave(hearer, bell));
+                break;
+            case 7:
+                if (random.nextInt(3) == 0) {
+                    due(call, "take " + hearer, house.take(hearer), model.take(hearer));
+                }
+                break;
+            case 8:
+                int from = aHearer();
+                due(call, "lend " + hearer + " " + from, house.lend(hearer, from), model.lend(hearer, from));
+                break;
+            case 9:
+                due(call, "tally " + k + " " + v, house.tally(k, v), model.tally(k, v));
+                break;
+            case 10:
+                int way = below(2);
+                due(call, "way " + bell + " " + way, house.way(bell, way), model.way(bell, way));
+                break;
+            default:
+                tell(call, hearer, bell, k);
+        }
+    }
+
+    private void tell(int call, int hearer, int bell, int k) {
+        int place = below(13);
+        due(call, "get " + k, house.get(k), model.get(k));
+        due(call, "line " + bell + " " + place, house.line(bell, place), model.line(bell, place));
+        due(call, "queued " + place, house.queued(place), model.queued(place));
+        due(call, "count " + place, house.count(place), model.count(place));
+        due(call, "done " + hearer, house.done(hearer), model.done(hearer));
+    }
+
+    private void wholeState() {
+        for (int i = -1; i <= 40; i++) {
+            due(CALLS, "get " + i, house.get(i), model.get(i));
+            due(CALLS, "count " + i, house.count(i), model.count(i));
+            due(CALLS, "done " + i, house.done(i), model.done(i));
+            due(CALLS, "queued " + i, house.queued(i), model.queued(i));
+            for (int bell = 0; bell < 6; bell++) {
+                due(CALLS, "line " + bell + " " + i, house.line(bell, i), model.line(bell, i));
+            }
+        }
+    }
+}
