@@ -13,6 +13,7 @@ public final class RingingTest {
         innerRingingTellsNewcomers();
         cutsItself();
         softGoesOn();
+        fourFailuresAreMet();
         hardEnds();
         hardEndsWhoRangIt();
         hardInsideSoft();
@@ -143,6 +144,38 @@ public final class RingingTest {
         check.due("SOFT met", x.count(9), 2);
         check.due("SOFT: no failed call", x.count(4), 0);
         check.due("SOFT: the last is told", x.done(0), 1);
+    }
+
+    /** ZERO, PLACE, EMPTY and ROOM are met by a TRY and by a SOFT bell alike. */
+    private static void fourFailuresAreMet() {
+        BellHouse x = new BellHouse();
+        int none = x.hearer(0, 0, 0);
+        x.take(none);
+        int share = x.hearer(3, 1, 0);
+        int point = x.hearer(4, 0, 1);
+        int laterMany = doubled(x, x.hearer(6, 5, 0), 5);
+        for (int i = 0; i < 12; i++) {
+            x.bind(x.hearer(0, 2, 0), 4);
+        }
+        int bindMore = x.hearer(14, 0, 4);
+        int[] failing = {share, point, none, bindMore, laterMany};
+        long[] values = {0, 8, 0, 0, 0};
+        int[] due = {-11, -12, -13, -14, -14};
+        x.way(0, 1);
+        for (int i = 0; i < failing.length; i++) {
+            check.due("fails alone " + i, x.act(failing[i], values[i]), due[i]);
+            x.drain();
+            int tried = x.hearer(12, failing[i], 7);
+            check.holds("met by a TRY " + i, x.act(tried, values[i]) > 0);
+            check.due("TRY tally " + i, x.get(7), i + 1);
+            x.bind(failing[i], 0);
+            check.holds("met by a SOFT bell " + i, x.ring(0, values[i]) >= 0);
+            check.due("misses " + i, x.count(3), i + 1);
+            x.leave(failing[i], 0);
+        }
+        check.due("failed calls", x.count(4), 5);
+        check.due("met by tries", x.count(5), 5);
+        check.due("met in all", x.count(9), 15);
     }
 
     private static void hardEnds() {
