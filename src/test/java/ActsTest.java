@@ -31,7 +31,7 @@ public final class ActsTest {
     }
 
     private static void actBad() {
-        BellHouse x = new BellHouse();
+        House x = new House();
         for (int wrong : new int[] {-1, 2, 40, MIN, MAX}) {
             check.due("11 bad " + wrong, x.act(wrong, 0), BAD);
         }
@@ -39,7 +39,7 @@ public final class ActsTest {
     }
 
     private static void add() {
-        BellHouse x = new BellHouse();
+        House x = new House();
         int add = x.hearer(0, 3, -4);
         check.due("ADD", x.act(add, 10), 1);
         check.due("ADD v and b", x.get(3), 6);
@@ -54,7 +54,7 @@ public final class ActsTest {
     }
 
     private static void most() {
-        BellHouse x = new BellHouse();
+        House x = new House();
         int most = x.hearer(1, 2, 100);
         x.act(most, -1);
         check.due("MOST not greater", x.get(2), 0);
@@ -68,7 +68,7 @@ public final class ActsTest {
     }
 
     private static void back() {
-        BellHouse x = new BellHouse();
+        House x = new House();
         x.tally(1, 50);
         int back = x.hearer(2, 1, -8);
         x.tally(1, 7);
@@ -83,7 +83,7 @@ public final class ActsTest {
     }
 
     private static void share() {
-        BellHouse x = new BellHouse();
+        House x = new House();
         int share = x.hearer(3, 6, 9);
         x.tally(6, -7);
         check.due("SHARE", x.act(share, 2), 1);
@@ -100,7 +100,7 @@ public final class ActsTest {
     }
 
     private static void point() {
-        BellHouse x = new BellHouse();
+        House x = new House();
         int point = x.hearer(4, 77, -3);
         check.due("POINT 0", x.act(point, 0), 1);
         check.due("POINT 7", x.act(point, 7), 1);
@@ -114,7 +114,7 @@ public final class ActsTest {
     }
 
     private static void ringAct() {
-        BellHouse x = new BellHouse();
+        House x = new House();
         int ring = x.hearer(5, 4, 3);
         x.bind(0, 4);
         check.due("RING", x.act(ring, 10), 2);
@@ -126,7 +126,7 @@ public final class ActsTest {
     }
 
     private static void later() {
-        BellHouse x = new BellHouse();
+        House x = new House();
         int later = x.hearer(6, 2, 5);
         int bothAdd = x.hearer(11, later, 0);
         int share = x.hearer(3, 0, 0);
@@ -138,7 +138,7 @@ public final class ActsTest {
     }
 
     private static void stop() {
-        BellHouse x = new BellHouse();
+        House x = new House();
         int later = x.hearer(6, 0, 0);
         int stop = x.hearer(7, 0, 0);
         int stopAdd = x.hearer(11, stop, 0);
@@ -155,7 +155,7 @@ public final class ActsTest {
     }
 
     private static void first() {
-        BellHouse x = new BellHouse();
+        House x = new House();
         int first = x.hearer(8, 0, 2);
         int never = x.hearer(8, 0, 0);
         int less = x.hearer(8, 0, MIN);
@@ -171,7 +171,7 @@ public final class ActsTest {
     }
 
     private static void firstInsideItself() {
-        BellHouse x = new BellHouse();
+        House x = new House();
         int ring = x.hearer(5, 0, 1);
         int first = x.hearer(8, ring, 3);
         x.bind(first, 0);
@@ -182,7 +182,7 @@ public final class ActsTest {
     }
 
     private static void each() {
-        BellHouse x = new BellHouse();
+        House x = new House();
         int third = x.hearer(9, 0, 3);
         int one = x.hearer(9, 0, 1);
         int zero = x.hearer(9, 0, 0);
@@ -200,7 +200,7 @@ public final class ActsTest {
     }
 
     private static void onlyIf() {
-        BellHouse x = new BellHouse();
+        House x = new House();
         int when = x.hearer(10, 0, 5);
         check.due("IF 0", x.act(when, 1), 1);
         x.tally(5, -1);
@@ -213,7 +213,7 @@ public final class ActsTest {
     }
 
     private static void both() {
-        BellHouse x = new BellHouse();
+        House x = new House();
         int share = x.hearer(3, 0, 0);
         int point = x.hearer(4, 0, 1);
         int addShare = x.hearer(11, 0, share);
@@ -232,7 +232,7 @@ public final class ActsTest {
     }
 
     private static void tryMeets() {
-        BellHouse x = new BellHouse();
+        House x = new House();
         int share = x.hearer(3, 0, 0);
         int both = x.hearer(11, share, 0);
         int tried = x.hearer(12, both, 6);
@@ -253,7 +253,7 @@ public final class ActsTest {
     }
 
     private static void tryLetsPass() {
-        BellHouse x = new BellHouse();
+        House x = new House();
         int again = x.hearer(5, 0, 0);
         x.bind(again, 0);
         x.way(0, 1);
@@ -262,7 +262,7 @@ public final class ActsTest {
         check.due("TRY DEEP: none more", x.get(6), 0);
         check.due("TRY DEEP: SOFT counts no miss", x.count(3), 0);
         check.due("TRY DEEP: met by the call alone", x.count(9), 1);
-        BellHouse y = new BellHouse();
+        House y = new House();
         int twice = y.hearer(11, 0, 0);
         for (int i = 0; i < 7; i++) {
             twice = y.hearer(11, twice, twice);
@@ -275,7 +275,7 @@ public final class ActsTest {
     }
 
     private static void cut() {
-        BellHouse x = new BellHouse();
+        House x = new House();
         int cut = x.hearer(13, 0, 0);
         for (int bell = 0; bell < 6; bell++) {
             x.bind(1, bell);
@@ -294,7 +294,7 @@ public final class ActsTest {
     }
 
     private static void bindAct() {
-        BellHouse x = new BellHouse();
+        House x = new House();
         int bind = x.hearer(14, 0, 5);
         check.due("BIND", x.act(bind, 0), 1);
         check.due("BIND place", x.line(5, 0), 0);
@@ -310,7 +310,7 @@ public final class ActsTest {
     }
 
     private static void asMade() {
-        BellHouse x = new BellHouse();
+        House x = new House();
         int two = x.hearer(0, 2, 0);
         int first = x.hearer(8, two, 9);
         int both = x.hearer(11, 0, two);
@@ -328,7 +328,7 @@ public final class ActsTest {
     }
 
     private static void noneAsMade() {
-        BellHouse x = new BellHouse();
+        House x = new House();
         x.take(0);
         x.tally(5, 1);
         int first = x.hearer(8, 0, 1);
@@ -353,7 +353,7 @@ public final class ActsTest {
     }
 
     private static void noneAsMadeButNotDone() {
-        BellHouse x = new BellHouse();
+        House x = new House();
         x.take(0);
         int never = x.hearer(8, 0, 0);
         int second = x.hearer(9, 0, 2);

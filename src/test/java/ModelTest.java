@@ -1,8 +1,8 @@
 import java.util.Random;
 
-/** Drawn runs of 512 calls each: every answer, and now and then the whole state, against ModelHouse. */
+/** Drawn runs of up to 512 calls: every answer, and in every other run at last the whole state, against ModelHouse. */
 public final class ModelTest {
-    private static final int RUNS = 4000, CALLS = 512;
+    private static final int RUNS = 6000, CALLS_TO_TELL = 5, CALLS_OF_WHOLE_STATE = 164;
     private static final long[] VALUES = {0, 0, 1, 1, 2, 3, 5, 7, 8, -1, -3, 1000000, 4294967296L,
         Long.MAX_VALUE, Long.MIN_VALUE};
     private static final int[] WILD = {-1, -2, 6, 8, 10, 12, 15, 20, 40, Integer.MIN_VALUE, Integer.MAX_VALUE};
@@ -11,7 +11,7 @@ public final class ModelTest {
     private static int longest = 0;
 
     private final Random random;
-    private final BellHouse house = new BellHouse();
+    private final House house = new House();
     private final ModelHouse model = new ModelHouse();
     private final boolean callingMuch;
     private final String name;
@@ -25,10 +25,14 @@ public final class ModelTest {
     public static void main(String[] args) {
         for (int seed = 0; seed < RUNS; seed++) {
             ModelTest run = new ModelTest(seed);
-            for (int call = 0; call < CALLS; call++) {
-                run.oneCall(call);
+            boolean whole = seed % 2 == 0;
+            int kept = CALLS_TO_TELL + (whole ? CALLS_OF_WHOLE_STATE : 0);
+            while (run.house.callsLeft() >= kept) {
+                run.oneCall(House.MOST_CALLS - run.house.callsLeft());
             }
-            run.wholeState();
+            if (whole) {
+                run.wholeState();
+            }
         }
         for (int failure = 1; failure <= 6; failure++) {
             check.holds("failure " + failure + " came up to a call", answers[failure] > 100);
@@ -145,13 +149,23 @@ public final class ModelTest {
     }
 
     private void wholeState() {
-        for (int i = -1; i <= 40; i++) {
-            due(CALLS, "get " + i, house.get(i), model.get(i));
-            due(CALLS, "count " + i, house.count(i), model.count(i));
-            due(CALLS, "done " + i, house.done(i), model.done(i));
-            due(CALLS, "queued " + i, house.queued(i), model.queued(i));
-            for (int bell = 0; bell < 6; bell++) {
-                due(CALLS, "line " + bell + " " + i, house.line(bell, i), model.line(bell, i));
+        for (int i = -1; i <= 10; i++) {
+            due(House.MOST_CALLS, "count " + i, house.count(i), model.count(i));
+        }
+        for (int k = -1; k <= 8; k++) {
+            due(House.MOST_CALLS, "get " + k, house.get(k), model.get(k));
+        }
+        for (int hearer = -1; hearer <= model.count(0); hearer++) {
+            due(House.MOST_CALLS, "done " + hearer, house.done(hearer), model.done(hearer));
+        }
+        for (int i = -1; i <= model.count(7); i++) {
+            due(House.MOST_CALLS, "queued " + i, house.queued(i), model.queued(i));
+        }
+        for (int bell = 0; bell < 6; bell++) {
+            int hearer = 0;
+            for (int place = 0; hearer >= 0; place++) {
+                hearer = model.line(bell, place);
+                due(House.MOST_CALLS, "line " + bell + " " + place, house.line(bell, place), hearer);
             }
         }
     }

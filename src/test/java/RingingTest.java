@@ -36,7 +36,7 @@ public final class RingingTest {
     }
 
     private static void ringBad() {
-        BellHouse x = new BellHouse();
+        House x = new House();
         for (int wrong : new int[] {-1, 6, Integer.MIN_VALUE, Integer.MAX_VALUE}) {
             check.due("9 bad " + wrong, x.ring(wrong, 0), BAD);
         }
@@ -48,7 +48,7 @@ public final class RingingTest {
     }
 
     private static void inOrder() {
-        BellHouse x = new BellHouse();
+        House x = new House();
         int share = x.hearer(3, 0, 0);
         x.bind(share, 0);
         x.bind(0, 0);
@@ -63,7 +63,7 @@ public final class RingingTest {
     }
 
     private static void leftBeforeItsTurn() {
-        BellHouse x = new BellHouse();
+        House x = new House();
         int cut = x.hearer(13, 0, 0);
         x.bind(cut, 0);
         x.bind(0, 0);
@@ -74,7 +74,7 @@ public final class RingingTest {
     }
 
     private static void leftAndCameAgain() {
-        BellHouse x = new BellHouse();
+        House x = new House();
         int cut = x.hearer(13, 0, 0);
         int bind = x.hearer(14, 0, 0);
         int share = x.hearer(3, 0, 0);
@@ -86,7 +86,7 @@ public final class RingingTest {
         check.due("came behind its turn: not told", x.ring(0, 2), 3);
         check.due("came behind its turn: shared alone", x.get(0), 4);
         check.due("came again: last", x.line(0, 3), 0);
-        BellHouse y = new BellHouse();
+        House y = new House();
         int cutBind = y.hearer(11, y.hearer(13, 0, 0), y.hearer(14, 0, 0));
         share = y.hearer(3, 0, 0);
         y.bind(cutBind, 0);
@@ -99,7 +99,7 @@ public final class RingingTest {
     }
 
     private static void comesMeanwhile() {
-        BellHouse x = new BellHouse();
+        House x = new House();
         int bind = x.hearer(14, 0, 0);
         x.bind(bind, 0);
         check.due("comes meanwhile: not told", x.ring(0, 5), 1);
@@ -109,7 +109,7 @@ public final class RingingTest {
     }
 
     private static void innerRingingTellsNewcomers() {
-        BellHouse x = new BellHouse();
+        House x = new House();
         int bind = x.hearer(14, 0, 0);
         int again = x.hearer(8, x.hearer(5, 0, 0), 1);
         x.bind(bind, 0);
@@ -119,7 +119,7 @@ public final class RingingTest {
     }
 
     private static void cutsItself() {
-        BellHouse x = new BellHouse();
+        House x = new House();
         int bind = x.hearer(14, 1, 3);
         int cut = x.hearer(13, bind, 0);
         x.lend(bind, cut);
@@ -131,7 +131,7 @@ public final class RingingTest {
     }
 
     private static void softGoesOn() {
-        BellHouse x = new BellHouse();
+        House x = new House();
         int share = x.hearer(3, 1, 0);
         int none = x.hearer(0, 0, 0);
         x.take(none);
@@ -148,7 +148,7 @@ public final class RingingTest {
 
     /** ZERO, PLACE, EMPTY and ROOM are met by a TRY and by a SOFT bell alike. */
     private static void fourFailuresAreMet() {
-        BellHouse x = new BellHouse();
+        House x = new House();
         int none = x.hearer(0, 0, 0);
         x.take(none);
         int share = x.hearer(3, 1, 0);
@@ -179,7 +179,7 @@ public final class RingingTest {
     }
 
     private static void hardEnds() {
-        BellHouse x = new BellHouse();
+        House x = new House();
         int share = x.hearer(3, 1, 0);
         x.bind(0, 0);
         x.bind(share, 0);
@@ -194,7 +194,7 @@ public final class RingingTest {
     }
 
     private static void hardEndsWhoRangIt() {
-        BellHouse x = new BellHouse();
+        House x = new House();
         int share = x.hearer(3, 1, 0);
         int ring = x.hearer(5, 1, 0);
         x.bind(share, 1);
@@ -209,7 +209,7 @@ public final class RingingTest {
     }
 
     private static void hardInsideSoft() {
-        BellHouse x = new BellHouse();
+        House x = new House();
         int share = x.hearer(3, 1, 0);
         int ring = x.hearer(5, 1, 0);
         x.bind(share, 1);
@@ -224,7 +224,7 @@ public final class RingingTest {
     }
 
     private static void tryRoundRing() {
-        BellHouse x = new BellHouse();
+        House x = new House();
         int share = x.hearer(3, 1, 0);
         int ring = x.hearer(5, 1, 0);
         int tried = x.hearer(12, ring, 7);
@@ -239,7 +239,7 @@ public final class RingingTest {
     }
 
     private static void stopEndsInnermost() {
-        BellHouse x = new BellHouse();
+        House x = new House();
         int stopAdd = x.hearer(12, x.hearer(11, 1, 0), 7);
         int ring = x.hearer(5, 1, 0);
         int ringAdd = x.hearer(11, ring, 0);
@@ -259,7 +259,7 @@ public final class RingingTest {
     }
 
     private static void deepEdge() {
-        BellHouse x = new BellHouse();
+        House x = new House();
         int ring = x.hearer(5, 0, 1);
         int seven = x.hearer(8, ring, 7);
         x.bind(seven, 0);
@@ -270,7 +270,7 @@ public final class RingingTest {
         check.due("a ninth is DEEP", x.ring(0, 0), DEEP);
         check.due("a ninth does not begin", x.count(2), 16);
         check.due("DEEP is told", x.count(8), 5);
-        BellHouse y = new BellHouse();
+        House y = new House();
         ring = y.hearer(5, 0, 1);
         y.bind(y.hearer(8, ring, 8), 0);
         check.due("act is in no ringing", y.act(ring, 0), DEEP);
@@ -279,7 +279,7 @@ public final class RingingTest {
     }
 
     private static void deepEndsAll() {
-        BellHouse x = new BellHouse();
+        House x = new House();
         int ring = x.hearer(5, 0, 0);
         int tried = x.hearer(12, ring, 7);
         x.bind(tried, 0);
@@ -298,7 +298,7 @@ public final class RingingTest {
     }
 
     private static void spentEdge() {
-        BellHouse x = new BellHouse();
+        House x = new House();
         int eight = doubled(x, 0, 3);
         int all = doubled(x, eight, 3);
         check.due("127 steps", x.act(all, 0), 127);
@@ -317,7 +317,7 @@ public final class RingingTest {
     }
 
     /** BOTH of the act before, some times over: 2 to the power of times of it. */
-    private static int doubled(BellHouse x, int hearer, int times) {
+    private static int doubled(House x, int hearer, int times) {
         int top = hearer;
         for (int i = 0; i < times; i++) {
             top = x.hearer(11, top, top);
@@ -326,7 +326,7 @@ public final class RingingTest {
     }
 
     private static void spentEndsAll() {
-        BellHouse x = new BellHouse();
+        House x = new House();
         int many = doubled(x, 0, 7);
         int tried = x.hearer(12, many, 7);
         x.bind(tried, 0);
@@ -343,7 +343,7 @@ public final class RingingTest {
     }
 
     private static void emptyAheadOfSpent() {
-        BellHouse x = new BellHouse();
+        House x = new House();
         int first = x.hearer(8, doubled(x, 0, 6), 99);
         x.bind(first, 0);
         x.bind(doubled(x, 0, 5), 0);
@@ -360,7 +360,7 @@ public final class RingingTest {
     }
 
     private static void queueOrder() {
-        BellHouse x = new BellHouse();
+        House x = new House();
         int share = x.hearer(3, 0, 0);
         int laterAdd = x.hearer(6, 1, 0);
         int laterShare = x.hearer(6, 2, 0);
@@ -376,7 +376,7 @@ public final class RingingTest {
     }
 
     private static void queueValues() {
-        BellHouse x = new BellHouse();
+        House x = new House();
         int later = x.hearer(6, 1, Integer.MAX_VALUE);
         x.bind(0, 1);
         x.act(later, Long.MAX_VALUE);
@@ -384,7 +384,7 @@ public final class RingingTest {
     }
 
     private static void queueStopsAtFailure() {
-        BellHouse x = new BellHouse();
+        House x = new House();
         int point = x.hearer(4, 0, 1);
         int laterOne = x.hearer(6, 1, 0);
         int laterTwo = x.hearer(6, 2, -9);
@@ -411,7 +411,7 @@ public final class RingingTest {
     }
 
     private static void queueRoom() {
-        BellHouse x = new BellHouse();
+        House x = new House();
         int later = x.hearer(6, 1, 0);
         int sixteen = doubled(x, later, 4);
         int four = doubled(x, later, 2);
@@ -432,7 +432,7 @@ public final class RingingTest {
     }
 
     private static void queueRoundTheEnd() {
-        BellHouse x = new BellHouse();
+        House x = new House();
         int[] later = new int[6];
         for (int bell = 0; bell < 6; bell++) {
             later[bell] = x.hearer(6, bell, 0);
@@ -452,7 +452,7 @@ public final class RingingTest {
     }
 
     private static void queueEmptiesWithoutSteps() {
-        BellHouse x = new BellHouse();
+        House x = new House();
         int later = x.hearer(6, 1, 0);
         int many = doubled(x, later, 5);
         x.act(many, 0);
@@ -466,7 +466,7 @@ public final class RingingTest {
     }
 
     private static void fullByFailures() {
-        BellHouse x = new BellHouse();
+        House x = new House();
         int none = x.hearer(0, 0, 0);
         x.take(none);
         int tried = x.hearer(12, none, 0);
@@ -499,7 +499,7 @@ public final class RingingTest {
     }
 
     private static void fullAtTheEdge() {
-        BellHouse x = new BellHouse();
+        House x = new House();
         int none = x.hearer(0, 0, 0);
         x.take(none);
         int tried = x.hearer(12, none, 0);

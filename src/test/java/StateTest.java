@@ -25,7 +25,7 @@ public final class StateTest {
     }
 
     private static void newObject() {
-        BellHouse x = new BellHouse();
+        House x = new House();
         for (int k = 0; k < 8; k++) {
             check.due("1 new: get " + k, x.get(k), 0);
         }
@@ -46,18 +46,18 @@ public final class StateTest {
     }
 
     private static void newObjectsHearers() {
-        BellHouse x = new BellHouse();
+        House x = new House();
         check.due("1 hearer 0", x.act(0, 7), 1);
         check.due("1 hearer 0 adds to tally 0, of 0", x.get(0), 7);
         check.due("1 hearer 1", x.act(1, 7), 1);
         check.due("1 hearer 1 is STOP", x.count(6), 1);
         check.due("1 hearer 1 leaves tallies", x.get(0), 7);
-        BellHouse y = new BellHouse();
+        House y = new House();
         check.due("1 objects are apart", y.get(0), 0);
     }
 
     private static void tallyAndGet() {
-        BellHouse x = new BellHouse();
+        House x = new House();
         check.due("2 tally 0", x.tally(0, 5), 1);
         check.due("2 tally 7", x.tally(7, Long.MIN_VALUE), 1);
         check.due("2 tally 3", x.tally(3, Long.MAX_VALUE), 1);
@@ -74,7 +74,7 @@ public final class StateTest {
     }
 
     private static void way() {
-        BellHouse x = new BellHouse();
+        House x = new House();
         check.due("3 way was HARD", x.way(5, 1), 0);
         check.due("3 way was SOFT", x.way(5, 1), 1);
         check.due("3 way bad 2", x.way(5, 2), BAD);
@@ -88,7 +88,7 @@ public final class StateTest {
     }
 
     private static void hearerBad() {
-        BellHouse x = new BellHouse();
+        House x = new House();
         for (int sort : new int[] {-1, 15, MIN, MAX}) {
             check.due("4 sort " + sort, x.hearer(sort, 0, 0), BAD);
         }
@@ -114,7 +114,7 @@ public final class StateTest {
     }
 
     private static void hearerGood() {
-        BellHouse x = new BellHouse();
+        House x = new House();
         int next = 2;
         for (int sort = 0; sort <= 3; sort++) {
             check.due("4 any b of " + sort, x.hearer(sort, 7, MIN), next++);
@@ -134,7 +134,7 @@ public final class StateTest {
     }
 
     private static void hearerFull() {
-        BellHouse x = new BellHouse();
+        House x = new House();
         for (int hearer = 2; hearer < 40; hearer++) {
             check.due("4 hearer " + hearer, x.hearer(0, 0, 0), hearer);
         }
@@ -148,7 +148,7 @@ public final class StateTest {
     }
 
     private static void bindAndLine() {
-        BellHouse x = new BellHouse();
+        House x = new House();
         check.due("5 first place", x.bind(1, 2), 0);
         check.due("5 second place", x.bind(0, 2), 1);
         check.due("5 in it", x.bind(1, 2), NONE);
@@ -171,7 +171,7 @@ public final class StateTest {
     }
 
     private static void bindFull() {
-        BellHouse x = new BellHouse();
+        House x = new House();
         for (int hearer = 2; hearer < 14; hearer++) {
             x.hearer(0, 0, 0);
             check.due("5 place of " + hearer, x.bind(hearer, 0), hearer - 2);
@@ -188,7 +188,7 @@ public final class StateTest {
     }
 
     private static void leave() {
-        BellHouse x = new BellHouse();
+        House x = new House();
         x.hearer(0, 0, 0);
         x.bind(0, 1);
         x.bind(1, 1);
@@ -210,7 +210,7 @@ public final class StateTest {
     }
 
     private static void take() {
-        BellHouse x = new BellHouse();
+        House x = new House();
         check.due("7 had one", x.take(0), 1);
         check.due("7 had none", x.take(0), 0);
         check.due("7 bad 2", x.take(2), BAD);
@@ -222,7 +222,7 @@ public final class StateTest {
     }
 
     private static void lend() {
-        BellHouse x = new BellHouse();
+        House x = new House();
         check.due("4 FIRST of hearer 0, once", x.hearer(8, 0, 1), 2);
         check.due("4 one more", x.hearer(0, 1, 0), 3);
         check.due("8 lend", x.lend(3, 2), 1);
@@ -246,7 +246,7 @@ public final class StateTest {
     }
 
     private static void queued() {
-        BellHouse x = new BellHouse();
+        House x = new House();
         check.due("4 LATER bell 3", x.hearer(6, 3, 0), 2);
         check.due("4 LATER bell 4", x.hearer(6, 4, 0), 3);
         check.due("4 BOTH", x.hearer(11, 2, 3), 4);
@@ -267,7 +267,7 @@ public final class StateTest {
     }
 
     private static void countAndDoneBad() {
-        BellHouse x = new BellHouse();
+        House x = new House();
         for (int wrong : new int[] {-1, 10, MIN, MAX}) {
             check.due("15 bad " + wrong, x.count(wrong), BAD);
             check.due("16 bad " + wrong, x.done(wrong), BAD);
@@ -275,7 +275,7 @@ public final class StateTest {
     }
 
     private static void countAll() {
-        BellHouse x = new BellHouse();
+        House x = new House();
         x.hearer(4, 0, 1);
         x.hearer(12, 2, 7);
         x.hearer(7, 0, 0);
@@ -305,7 +305,7 @@ public final class StateTest {
     }
 
     private static void done() {
-        BellHouse x = new BellHouse();
+        House x = new House();
         x.hearer(11, 0, 0);
         x.hearer(11, 2, 0);
         x.take(0);
