@@ -37,6 +37,7 @@ final class RingingEdges extends Edges {
         asLongAsNothingFailed();
         queueTillItIsEmpty();
         queueGoesRound();
+        queueOfMostEntries();
         firstThatFits();
         badChangesNothing();
         fullAt2000();
@@ -714,6 +715,34 @@ final class RingingEdges extends Edges {
         due("20 entries, each of 12 MISSES", z.drain(), 0);
         due("MISSES", z.count(3), 240);
         due("then it is empty", z.queued(0), NONE);
+    }
+
+    /** 20 that are there and one for each of 200 STEPS: no call can take out more. */
+    private void queueOfMostEntries() {
+        sentence("Terms", "the first of THE QUEUE is taken out and RUNG, again and again, till it is empty.");
+        House x = new House();
+        int silent = laying(x, 2);
+        int again = laying(x, 1);
+        x.bind(x.hearer(LATER, 1, 0), 1);
+        for (int i = 0; i < 19; i++) {
+            x.act(silent, 0);
+        }
+        x.act(again, 0);
+        due("the 220th entry would make the 201st STEP", x.drain(), SPENT);
+        due("220 were taken out and RUNG", x.count(2), 220);
+        due("none is left", x.count(7), 0);
+        due("STEPS", x.count(1), 2 * 20 + 200);
+        House y = new House();
+        silent = laying(y, 2);
+        again = laying(y, 1);
+        y.bind(y.hearer(FIRST, y.hearer(LATER, 1, 0), 99), 1);
+        for (int i = 0; i < 19; i++) {
+            y.act(silent, 0);
+        }
+        y.act(again, 0);
+        due("118 entries behind the first, all well", y.drain(), 2 * 99 + 1);
+        due("119 were taken out and RUNG", y.count(2), 19 + 100);
+        due("none is left, too", y.count(7), 0);
     }
 
     private void firstThatFits() {
