@@ -61,6 +61,11 @@ final class ModelHouse {
     private final int[] counts = new int[10];
     private int depth = 0;
     private int left = 0;
+    private boolean inQueue = false;
+
+    /** How often that came which drawn calls seldom bring. */
+    int spentAheadOfQueue = 0;
+    int toldFurtherBehind = 0;
 
     ModelHouse() {
         for (int bell = 0; bell < 6; bell++) {
@@ -178,8 +183,11 @@ final class ModelHouse {
         depth++;
         counts[2]++;
         try {
-            for (int hearer : new ArrayList<>(lines.get(bell))) {
-                if (lines.get(bell).contains(hearer)) {
+            List<Integer> atFirst = new ArrayList<>(lines.get(bell));
+            for (int hearer : atFirst) {
+                int place = lines.get(bell).indexOf(hearer);
+                if (place >= 0) {
+                    toldFurtherBehind += place > atFirst.indexOf(hearer) ? 1 : 0;
                     tell(hearer, bell, v);
                 }
             }
@@ -206,8 +214,10 @@ final class ModelHouse {
             return FULL;
         }
         left = 200;
+        inQueue = false;
         try {
             before.run();
+            inQueue = true;
             while (!queue.isEmpty()) {
                 Laid laid = queue.remove();
                 ringing(laid.bell, laid.v);
@@ -216,6 +226,7 @@ final class ModelHouse {
             counts[4]++;
             counts[9]++;
             counts[8] = failure.kind;
+            spentAheadOfQueue += failure.kind == 6 && !inQueue ? 1 : 0;
             return -10 - failure.kind;
         }
         return 200 - left;

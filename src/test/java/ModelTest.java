@@ -8,17 +8,21 @@ public final class ModelTest {
     private static final int[] WILD = {-1, -2, 6, 8, 10, 12, 15, 20, 40, Integer.MIN_VALUE, Integer.MAX_VALUE};
     private static final Check check = new Check();
     private static final int[] answers = new int[16];
-    private static int longest = 0;
+    private static int ofAllSteps = 0, spentAheadOfQueue = 0, toldFurtherBehind = 0;
 
     private final Random random;
     private final House house = new House();
     private final ModelHouse model = new ModelHouse();
     private final boolean callingMuch;
+    private final boolean doubling;
+    private final boolean moving;
     private final String name;
 
     private ModelTest(int seed) {
         random = new Random(seed);
         callingMuch = seed % 3 == 0;
+        doubling = seed % 5 == 1;
+        moving = seed % 5 == 2;
         name = "run " + seed;
     }
 
@@ -26,6 +30,9 @@ public final class ModelTest {
         for (int seed = 0; seed < RUNS; seed++) {
             ModelTest run = new ModelTest(seed);
             boolean whole = seed % 2 == 0;
+            if (run.doubling) {
+                run.makeTreesOf200();
+            }
             int kept = CALLS_TO_TELL + (whole ? CALLS_OF_WHOLE_STATE : 0);
             while (run.house.callsLeft() >= kept) {
                 run.oneCall(House.MOST_CALLS - run.house.callsLeft());
@@ -33,13 +40,23 @@ public final class ModelTest {
             if (whole) {
                 run.wholeState();
             }
+            spentAheadOfQueue += run.model.spentAheadOfQueue;
+            toldFurtherBehind += run.model.toldFurtherBehind;
         }
+        enoughWasDrawn();
+        check.end();
+    }
+
+    /** What is seldom must have come often enough for these runs to hold it. */
+    private static void enoughWasDrawn() {
         for (int failure = 1; failure <= 6; failure++) {
             check.holds("failure " + failure + " came up to a call", answers[failure] > 100);
         }
         check.holds("some were FULL", answers[0] > 100);
-        check.holds("some made many steps, at most " + longest, longest > 190);
-        check.end();
+        check.holds("some made all 200 steps and ended well: " + ofAllSteps, ofAllSteps > 100);
+        check.holds("some were SPENT ahead of THE QUEUE: " + spentAheadOfQueue, spentAheadOfQueue > 100);
+        check.holds("some left, came again further behind and were told: " + toldFurtherBehind,
+                toldFurtherBehind > 100);
     }
 
     private int below(int many) {
@@ -64,7 +81,7 @@ public final class ModelTest {
         if (drawn >= 16 || call > 80 && drawn >= 12) {
             callThatRings(call);
         } else if (call < 60 && drawn < 9 || drawn < 2) {
-            makeHearer(call);
+            makeHearers(call);
         } else {
             changeOrTell(call, drawn);
         }
@@ -92,10 +109,54 @@ public final class ModelTest {
         if (got == BellHouse.FULL) {
             answers[0]++;
         }
-        longest = Math.max(longest, got);
+        if (got == 200) {
+            ofAllSteps++;
+        }
     }
 
-    private void makeHearer(int call) {
+    private void makeHearers(int call) {
+        if (moving && random.nextInt(3) == 0 && house.callsLeft() >= 10) {
+            makeMover(call, aHearer(), random.nextInt(6));
+        } else {
+            makeAnyHearer(call);
+        }
+    }
+
+    /** Trees of 1, 3, 7, .. 127 STEPS; those of 127, 63, 7 and 3 come into a line, which makes 200. */
+    private void makeTreesOf200() {
+        int leaf = hearer(0, random.nextInt(3), random.nextInt(8), random.nextInt(9) - 2);
+        for (int tree = leaf; tree < leaf + 6; tree++) {
+            hearer(0, 11, tree, tree);
+        }
+        int bell = random.nextInt(6);
+        int[] inLine = {leaf + 6, leaf + 5, leaf + 2, leaf + 1};
+        int turned = random.nextInt(4);
+        for (int i = 0; i < 4; i++) {
+            bind(0, inLine[(i + turned) % 4], bell);
+        }
+    }
+
+    /** One that takes another out of a line and puts it behind, ahead of that other in the line. */
+    private void makeMover(int call, int moved, int bell) {
+        int cut = hearer(call, 13, moved, 0);
+        int bind = hearer(call, 14, moved, bell);
+        int mover = hearer(call, 11, cut, bind);
+        due(call, "leave " + moved + " " + bell, house.leave(moved, bell), model.leave(moved, bell));
+        bind(call, mover, bell);
+        bind(call, moved, bell);
+    }
+
+    private void bind(int call, int hearer, int bell) {
+        due(call, "bind " + hearer + " " + bell, house.bind(hearer, bell), model.bind(hearer, bell));
+    }
+
+    private int hearer(int call, int sort, int a, int b) {
+        int made = model.hearer(sort, a, b);
+        due(call, "hearer " + sort + " " + a + " " + b, house.hearer(sort, a, b), made);
+        return made;
+    }
+
+    private void makeAnyHearer(int call) {
         int sort = below(15);
         int a = sort <= 3 ? below(8) : sort <= 6 ? below(6) : aHearer();
         int b = sort == 10 || sort == 12 ? below(8) : sort == 14 ? below(6) : sort == 11 ? aHearer()
@@ -103,7 +164,7 @@ public final class ModelTest {
         if (random.nextInt(40) == 0) {
             b = WILD[random.nextInt(WILD.length)];
         }
-        due(call, "hearer " + sort + " " + a + " " + b, house.hearer(sort, a, b), model.hearer(sort, a, b));
+        hearer(call, sort, a, b);
     }
 
     private void changeOrTell(int call, int drawn) {
@@ -113,7 +174,7 @@ public final class ModelTest {
         long v = value();
         switch (drawn) {
             case 2: case 3: case 4: case 5:
-                due(call, "bind " + hearer + " " + bell, house.bind(hearer, bell), model.bind(hearer, bell));
+                bind(call, hearer, bell);
                 break;
             case 6:
                 due(call, "leave " + hearer + " " + bell, house.leave(hearer, bell), model.leave(hearer, bell));
